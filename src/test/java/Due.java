@@ -21,7 +21,9 @@ final class Due {
 
     static void feed(RodOwes x, String text) {
         for (int i = 0; i < text.length(); i++) {
-            x.feed(text.charAt(i));
+            if (x.feed(text.charAt(i)) < 0) {
+                throw new IllegalArgumentException("not fed at " + i + ": " + text);
+            }
         }
     }
 

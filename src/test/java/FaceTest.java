@@ -70,11 +70,15 @@ public final class FaceTest {
         return !Modifier.isPrivate(m.getModifiers()) && !m.isSynthetic();
     }
 
-    /** No method of a class inside bears the name of a public one; the classes inside are static and few. */
+    /** No private method, and none of a class inside, bears a public name; the classes inside are static and few. */
     private static void names() {
         Set<String> open = new TreeSet<>();
         for (String m : METHODS) {
             open.add(m.substring(m.indexOf(' ') + 1, m.indexOf('(')));
+        }
+        for (Method m : RodOwes.class.getDeclaredMethods()) {
+            boolean hidden = Modifier.isPrivate(m.getModifiers());
+            due.is(m + " bears a public name", hidden && open.contains(m.getName()) ? 1 : 0, 0);
         }
         Class<?>[] inside = RodOwes.class.getDeclaredClasses();
         due.is("few classes", inside.length <= 11 ? 1 : 0, 1);
